@@ -22,6 +22,10 @@ public final class BestTest {
         order("fewest HELD", x, 0, 0, 2, 1, 0, 3);
         strengths(x, 10, 20, 35, 36);
         order("a must be 3", x, 0, 0, 3, 1, 0, 2);
+        Check.replan(x, "a91b71c51d31");
+        strengths(x, 12, 20, 28, 36);
+        order("the last way", x, 0, 0, 3, 2, 1, 0);
+        Check.replan(x, "a91b51c11");
         strengths(x, 0, 0, 0, 0);
         order("nobody can", x, 0, 3, 0, 1, 2, 3);
         CHECK.due("order(lowest int)", x.order(Integer.MIN_VALUE), UNKNOWN);
@@ -78,6 +82,15 @@ public final class BestTest {
         bestPace(x, 51, 8, 1000);
         bestPace(x, 52, NONE, NONE);
         CHECK.due("THE PLAN keeps its PACE", x.after(1, 5), 0);
+        Check.replan(x, "-09a01");
+        bestPace(x, 60, 9, 1000);
+        bestPace(x, 61, NONE, NONE);
+        x.set(2, 1000);
+        bestPace(x, 36, 9, 1000);
+        x.set(2, 1001);
+        bestPace(x, 36, NONE, NONE);
+        x.set(2, 600);
+        Check.replan(x, "a01");
         x.strong(0, 31);
         bestPace(x, 46, 7, 1000);
         bestPace(x, 47, NONE, NONE);
@@ -106,6 +119,9 @@ public final class BestTest {
         }
         CHECK.due("leaveOff(0) of no PLAN", new SaltIceCream().leaveOff(0), NONE);
         CHECK.due("leaveOff(0) of SALT alone", Check.withPlan("s1").leaveOff(0), NONE);
+        // 4 grams in each of the last 9 of 117 MINUTES: a tenth of 360 behind the very last
+        SaltIceCream late = RunTest.water(360, "-99-99-99-99-99-99-99-99-99-99-99-99a19");
+        CHECK.row("leaveOff() late", late::leaveOff, 8, 115, 116, 116, NONE);
         Check.replan(x, "-01");
         CHECK.due("nothing of a longer run ahead stays", x.leaveOff(1), NONE);
     }

@@ -57,6 +57,7 @@ public final class BoxTest {
         CHECK.due("grown(1, 9) without a BOX", x.grown(1, 9), OUTSIDE);
         Check.rebox(x, "5");
         CHECK.row("29", day -> x.grown(day, 29), 0, 19, 10, 5, 3, 2, 1, 1);
+        CHECK.row("29 at the last", day -> x.grown(day, 29), 98, 1, 1, OUTSIDE);
         CHECK.row("33", day -> x.grown(day, 33), 0, 0, 9, 10, 7);
         CHECK.row("37", day -> x.grown(day, 37), 0, 0, 0, 4, 7);
         CHECK.row("40", day -> x.grown(day, 40), 0, 0, 0, 0, 2);
@@ -80,6 +81,10 @@ public final class BoxTest {
         CHECK.row("11", day -> small.grown(day, 11), 0, 9, 1, 1);
         CHECK.row("21", day -> small.grown(day, 21), 0, 0, 8, 1);
         CHECK.row("26", day -> small.grown(day, 26), 0, 0, 0, 7);
+        small.set(SALT, 85);
+        Check.replan(small, "a91");
+        CHECK.row("20", day -> small.grown(day, 20), 0, 10, 1);
+        CHECK.row("26", day -> small.grown(day, 26), 0, 0, 9);
         SaltIceCream usual = nineteen();
         usual.set(STUFF, 2);
         Check.rebox(usual, "95");
@@ -110,6 +115,11 @@ public final class BoxTest {
         CHECK.due("sand() later", slow.sand(), 80);
         slow.set(SHARE, 737);
         CHECK.due("sand() too late", slow.sand(), NONE);
+        Check.rebox(slow, "000000000000000000000000000000005");
+        slow.set(SHARE, 842);
+        CHECK.due("sand() on the last DAY", slow.sand(), 99);
+        slow.set(SHARE, 843);
+        CHECK.due("sand() behind the last DAY", slow.sand(), NONE);
     }
 
     public static void main(String[] args) {

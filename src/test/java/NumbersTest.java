@@ -33,6 +33,8 @@ public final class NumbersTest {
         SaltIceCream x = new SaltIceCream();
         CHECK.due("set(-1, 5)", x.set(-1, 5), SaltIceCream.OUTSIDE);
         CHECK.due("set(8, 5)", x.set(8, 5), SaltIceCream.OUTSIDE);
+        CHECK.due("set(-1, 0)", x.set(-1, 0), SaltIceCream.OUTSIDE);
+        CHECK.due("set(8, 0)", x.set(8, 0), SaltIceCream.OUTSIDE);
         CHECK.due("set(lowest int)", x.set(Integer.MIN_VALUE, 5), SaltIceCream.OUTSIDE);
         CHECK.due("set(greatest int)", x.set(0, Integer.MAX_VALUE), SaltIceCream.OUTSIDE);
     }

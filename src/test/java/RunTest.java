@@ -44,6 +44,11 @@ public final class RunTest {
         CHECK.due("COLD is 0 at least", x.after(54, 3), 0);
         CHECK.row("ICE", m -> x.after(m, 0), 0, 10, 0, 0);
         CHECK.row("BRINE", m -> x.after(m, 2), 0, 0, 10, 10);
+        x.set(ICE, 1);
+        CHECK.row("COLD by a gram of ICE", m -> x.after(m, 3), 0, 210, 210, 205);
+        x.set(ICE, 9000);
+        x.set(SALT, 999);
+        CHECK.row("COLD, 899100 by 9999", m -> x.after(m, 3), 0, 89, 89);
         x.set(ICE, 0);
         CHECK.row("COLD, if there never was ICE", m -> x.after(m, 3), 0, 0, 0, 0);
         x.set(ICE, 1);
@@ -62,6 +67,8 @@ public final class RunTest {
         Check.replan(x, "s9s9");
         CHECK.due("SALT behind all of no MINUTES", x.after(0, 1), 1900);
         CHECK.due("COLD AFTER none by SALT of 1", x.after(0, 3), 29);
+        Check.replan(x, "s1s1s1s1s1s1s1s1s1s1s1s1s1s1s1s1s1s1s1s9");
+        CHECK.due("SALT of 20 PARTS", x.after(0, 1), 2900);
         Check.replan(x, "-01s4");
         CHECK.row("SALT behind the last MINUTE", m -> x.after(m, 1), 0, 100, 500);
         CHECK.due("COLD as that MINUTE had it", x.after(1, 3), 29);
@@ -106,6 +113,11 @@ public final class RunTest {
         Check.replan(x, "a92a21a31a51a61");
         CHECK.row("AIR by PACE by 3", m -> x.after(m, 7), 2, 3, 3, 4, 5, 7);
         CHECK.row("CHURNED by PACE 6 or more", m -> x.after(m, 9), 2, 0, 0, 0, 0, 1);
+        Check.replan(x, "a93");
+        x.set(WATER, 124);
+        CHECK.due("CHURNED, STIFF was 50", x.after(3, 9), 1);
+        x.set(WATER, 125);
+        CHECK.due("CHURNED, STIFF was 49", x.after(3, 9), 0);
         SaltIceCream y = water(2000, "a99a99b99b99c99c99");
         y.set(ICE, 34);
         y.set(SUGAR, 600);
@@ -162,6 +174,11 @@ public final class RunTest {
         CHECK.row("tired(0)", m -> x.tired(0, m), 0, 0, 2, 4, 4, 3, 2, 1, 0);
         CHECK.row("tired(1)", m -> x.tired(1, m), 0, 0, 0, 0, 0, 3, 2, 1, 0);
         CHECK.row("tired(2)", m -> x.tired(2, m), 0, 0, 0, 0, 0, 0, 0, 0, 0);
+        Check.replan(x, "d91c71b51a31");
+        CHECK.row("tired(3)", m -> x.tired(3, m), 0, 0, 4, 3, 2, 1);
+        CHECK.row("tired(2)", m -> x.tired(2, m), 0, 0, 0, 3, 2, 1);
+        CHECK.row("tired(1)", m -> x.tired(1, m), 0, 0, 0, 0, 2, 1);
+        CHECK.row("tired(0)", m -> x.tired(0, m), 0, 0, 0, 0, 0, 1);
         CHECK.due("tired(-1, 0)", x.tired(-1, 0), UNKNOWN);
         CHECK.due("tired(4, 99)", x.tired(4, 99), UNKNOWN);
         CHECK.due("tired(3, 8)", x.tired(3, 8), OUTSIDE);
@@ -185,6 +202,13 @@ public final class RunTest {
         CHECK.due("held(1) of none", x.held(1), SaltIceCream.NONE);
         CHECK.due("held(2)", x.held(2), OUTSIDE);
         CHECK.due("held(-1)", x.held(-1), OUTSIDE);
+        Check.replan(x, "d91c71b51a31");
+        for (int child = 0; child < 4; child++) {
+            allStrong(x, 200);
+            x.strong(child, 0);
+            CHECK.due("held(0), without " + child, x.held(0), 1);
+            CHECK.due("held(1), without " + child, x.held(1), 3 - child);
+        }
         SaltIceCream y = water(100, "a92");
         y.strong(0, 70);
         CHECK.due("31 and 36 are below 70 less 4? no", y.held(1), 1);
