@@ -21,7 +21,7 @@ public final class SaltIceCream {
     private static final int NOBODY = 4, SALTING = 5;
 
     private static final int SIGN_LEAST = 33, SIGN_MOST = 126, SIGNS_MOST = 40;
-    /** The shortest PART (salt) has two signs, the shortest with MINUTES three, with 9 of these. */
+    /** What 40 signs can say: PARTS of SALT have two signs; those with MINUTES three, and 9 of these at most. */
     private static final int PARTS_MOST = 20, MINUTES_MOST = 117;
 
     private static final int SIZE_LEAST = 10, SCRAPED_MOST = 60, SIZE_MOST = 63, COARSE_LEAST = 30;
@@ -338,7 +338,7 @@ public final class SaltIceCream {
     /** The WAYS come in the order of who is in the place of a, b, ..: the first of equals stays. */
     private int bestWay() {
         int best = WAY_AS_TOLD;
-        int fewestHeld = Integer.MAX_VALUE;
+        int fewestHeld = MINUTES_MOST + 1;
         int mostFrozen = 0;
         for (int way = 0; way < WAYS; way++) {
             if (hasEachChild(way)) {
