@@ -1,6 +1,11 @@
-/** Counts answers that are not as due; what all tests share. */
+import java.util.ArrayList;
+import java.util.List;
+
+/** Counts answers that are not as due, each under the sentence of the document that it belongs to. */
 final class Check {
     private final String name;
+    private final List<String> sentences = new ArrayList<>();
+    private String sentence = "";
     private int asked = 0;
     private int wrong = 0;
 
@@ -8,11 +13,22 @@ final class Check {
         this.name = name;
     }
 
+    /** A sentence of the document, in its own words: the answers behind this belong to it. DocumentTest looks it up. */
+    void says(String words) {
+        sentence = words;
+        sentences.add(words);
+    }
+
+    List<String> said() {
+        return sentences;
+    }
+
     void due(String call, long got, long want) {
         asked++;
         if (got != want) {
             wrong++;
-            System.out.println(name + ": " + call + " answered " + got + ", due is " + want);
+            System.out.println(name + ": " + call + " answered " + got + ", due is " + want
+                + (sentence.isEmpty() ? "" : "\n    by '" + sentence + "'"));
         }
     }
 
@@ -36,29 +52,5 @@ final class Check {
         if (wrong != 0 || asked == 0) {
             System.exit(1);
         }
-    }
-
-    static SaltIceCream saying(SaltIceCream x, String text) {
-        x.wipe();
-        for (char c : text.toCharArray()) {
-            x.say(c);
-        }
-        return x;
-    }
-
-    static SaltIceCream withPlan(String text) {
-        SaltIceCream x = new SaltIceCream();
-        saying(x, text).plan();
-        return x;
-    }
-
-    static SaltIceCream replan(SaltIceCream x, String text) {
-        saying(x, text).plan();
-        return x;
-    }
-
-    static SaltIceCream rebox(SaltIceCream x, String text) {
-        saying(x, text).box();
-        return x;
     }
 }
