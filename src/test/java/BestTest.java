@@ -40,6 +40,8 @@ public final class BestTest {
         order("3 in the place of a", y, 31, 0, 3, 0, 1, 2);
         CHECK.due("THE PLAN is as it was", y.held(0), 1);
         CHECK.due("STRONG is as it was", y.told(23), 36);
+        Given.plan(Given.strong(y, 0, 0, 0, 0), "a99b99c99d99a99b99c99d99a99b99c99d99a99");
+        order("each of 117 MINUTES is HELD", y, 0, 117, 0, 1, 2, 3);
     }
 
     private static void bestSalt(SaltIceCream x, int share, int salt, int coarse) {

@@ -56,6 +56,8 @@ public final class NumbersTest {
         SaltIceCream x = new SaltIceCream();
         CHECK.row("set() to 5, for which", which -> x.set(which, 5), -1,
             OUTSIDE, 3000, 1000, OUTSIDE, 150, 120, 100, 300, 2, OUTSIDE);
+        CHECK.due("set(-1, 0)", x.set(-1, 0), OUTSIDE);
+        CHECK.due("set(8, 0)", x.set(8, 0), OUTSIDE);
         CHECK.row("set() to the same", which -> x.set(which, 5), 3, 5, 5, 5, 5, 5);
         for (int far : FAR) {
             CHECK.due("set(" + far + ", 5)", x.set(far, 5), OUTSIDE);
