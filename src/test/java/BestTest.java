@@ -24,9 +24,21 @@ public final class BestTest {
         order("the other way round", Given.plan(y, "a91b51"), 31, 1, 0, 1, 2, 3);
         // in the place of a 31 grams, and 4 MINUTES HELD; in that of b or c 8 grams, and 3 MINUTES HELD
         order("fewer HELD are more than FROZEN", Given.plan(y, "a91b12c12"), 8, 3, 1, 0, 2, 3);
+        order("in a later way too", Given.strong(y, 0, 0, 0, 36), 8, 3, 0, 1, 3, 2);
+        Given.strong(y, 36, 0, 0, 0);
         order("the first of equals", Given.plan(y, "d91"), 31, 0, 1, 2, 3, 0);
         order("all alike", Given.strong(y, 36, 36, 36, 36), 31, 0, 0, 1, 2, 3);
         order("nobody's PLAN", Given.plan(y, "-91s1"), 0, 0, 0, 1, 2, 3);
+    }
+
+    /** Each of the four has one place: nobody comes twice in the stead of a weak one. */
+    private static void eachChildOnce() {
+        SaltIceCream x = Given.plan("a91b91c91d91");
+        x.set(ICE, 0);
+        order("without 0", Given.strong(x, 0, 200, 200, 200), 0, 1, 0, 1, 2, 3);
+        order("without 1", Given.strong(x, 200, 0, 200, 200), 0, 1, 0, 1, 2, 3);
+        order("without 2", Given.strong(x, 200, 200, 0, 200), 0, 1, 0, 1, 2, 3);
+        order("without 3", Given.strong(x, 200, 200, 200, 0), 0, 1, 0, 1, 2, 3);
     }
 
     private static void promise12Order() {
@@ -184,6 +196,7 @@ public final class BestTest {
 
     static Check all() {
         bestOrder();
+        eachChildOnce();
         promise12Order();
         leastCoarseSalt();
         promise13BestSalt();

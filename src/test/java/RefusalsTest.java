@@ -33,13 +33,18 @@ public final class RefusalsTest {
         CHECK.due(name + " leaves IMAGE 1", x.told(10), 1000);
     }
 
-    /** On an object without a PLAN, a BOX, an IMAGE. */
-    private static void refusedByNew(String name, Call call, long refusal) {
-        SaltIceCream x = new SaltIceCream();
-        CHECK.due(name + " of a new object", call.on(x), refusal);
-        CHECK.holds(name + " leaves it as new", Given.seen(x).equals(Given.seen(new SaltIceCream())));
+    /** On an object that is not as new, but has no BOX and no IMAGE. */
+    private static void refusedByBare(String name, Call call, long refusal) {
+        SaltIceCream x = Given.plan("a59s1b52");
+        x.set(Given.ICE, 1500);
+        x.strong(1, 50);
+        Given.signs(x, "a5");
+        String ahead = Given.seen(x);
+        CHECK.due(name + " without a BOX, an IMAGE", call.on(x), refusal);
+        CHECK.holds(name + " changes nothing", Given.seen(x).equals(ahead));
         CHECK.due(name + " makes no IMAGE 0", x.restore(0), STATE);
         CHECK.due(name + " makes no IMAGE 1", x.restore(1), STATE);
+        CHECK.holds(name + " changes nothing", Given.seen(x).equals(ahead));
     }
 
     private static void whatThereIsAndPlans() {
@@ -84,13 +89,13 @@ public final class RefusalsTest {
         refused("restore(-1)", x -> x.restore(-1), OUTSIDE);
         refused("restore(2)", x -> x.restore(2), OUTSIDE);
         refused("told(4)", x -> x.told(4), OUTSIDE);
-        refusedByNew("box()", x -> x.box(), NO);
-        refusedByNew("stored(1)", x -> x.stored(1), STATE);
-        refusedByNew("grown(1, 10)", x -> x.grown(1, 10), STATE);
-        refusedByNew("sand()", x -> x.sand(), STATE);
-        refusedByNew("restore(0)", x -> x.restore(0), STATE);
-        refusedByNew("restore(1)", x -> x.restore(1), STATE);
-        refusedByNew("image(2)", x -> x.image(2), OUTSIDE);
+        refusedByBare("box()", x -> x.box(), NO);
+        refusedByBare("stored(1)", x -> x.stored(1), STATE);
+        refusedByBare("grown(1, 10)", x -> x.grown(1, 10), STATE);
+        refusedByBare("sand()", x -> x.sand(), STATE);
+        refusedByBare("restore(0)", x -> x.restore(0), STATE);
+        refusedByBare("restore(1)", x -> x.restore(1), STATE);
+        refusedByBare("image(2)", x -> x.image(2), OUTSIDE);
     }
 
     private static void fullPad() {
@@ -107,12 +112,12 @@ public final class RefusalsTest {
         refused("strong(-1, -1)", x -> x.strong(-1, -1), UNKNOWN);
         refused("tired(4, 12)", x -> x.tired(4, 12), UNKNOWN);
         refused("tired(-1, -1)", x -> x.tired(-1, -1), UNKNOWN);
-        refusedByNew("stored(100)", x -> x.stored(100), OUTSIDE);
-        refusedByNew("stored(-1)", x -> x.stored(-1), OUTSIDE);
-        refusedByNew("grown(1, 9)", x -> x.grown(1, 9), OUTSIDE);
-        refusedByNew("grown(100, 10)", x -> x.grown(100, 10), OUTSIDE);
-        refusedByNew("restore(2)", x -> x.restore(2), OUTSIDE);
-        refusedByNew("restore(-1)", x -> x.restore(-1), OUTSIDE);
+        refusedByBare("stored(100)", x -> x.stored(100), OUTSIDE);
+        refusedByBare("stored(-1)", x -> x.stored(-1), OUTSIDE);
+        refusedByBare("grown(1, 9)", x -> x.grown(1, 9), OUTSIDE);
+        refusedByBare("grown(100, 10)", x -> x.grown(100, 10), OUTSIDE);
+        refusedByBare("restore(2)", x -> x.restore(2), OUTSIDE);
+        refusedByBare("restore(-1)", x -> x.restore(-1), OUTSIDE);
         SaltIceCream full = Given.signs(new SaltIceCream(), "s1s1s1s1s1s1s1s1s1s1s1s1s1s1s1s1s1s1s1s1");
         CHECK.due("say(127) on a full PAD", full.say(127), OUTSIDE);
         CHECK.due("say(126) on a full PAD", full.say(126), FULL);
