@@ -332,7 +332,7 @@ public final class SaltIceCream {
     }
 
     private void runAsTold() {
-        runFor(now.steps.minutes);
+        run.go(now, now.steps.minutes, now.number(SALT), WAY_AS_TOLD, PACE_AS_TOLD);
     }
 
     /** The WAYS come in the order of who is in the place of a, b, ..: the first of equals stays. */
